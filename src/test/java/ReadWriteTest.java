@@ -29,6 +29,9 @@ public final class ReadWriteTest {
         x.tick(0, 1);
         CHECK.due("after TERM", x.read(0, 0, 3, 1), -2);
         CHECK.due("after TERM", x.read(0, 0, 3, 0), -2);
+        Check.getLease(x, 1, 1, 1);
+        CHECK.due("a lease for reading is enough", x.read(1, 1, 0, 0), 0);
+        CHECK.due("whether, with a lease for reading", x.read(1, 1, 0, 1), 1);
     }
 
     private static void wrongReads() {
