@@ -3,7 +3,9 @@ public final class MessagesTest {
     private static final Check CHECK = new Check("MessagesTest");
 
     public static void main(String[] args) {
+        emptyList();
         orderIsKept();
+        everyCode();
         wrongPlaces();
         doublesCarryTheSame();
         sixtyAtMost();
@@ -27,6 +29,22 @@ public final class MessagesTest {
         CHECK.due(what + ": none behind", x.message(due.length), -1);
     }
 
+    private static void emptyList() {
+        LeasedPages x = new LeasedPages(20);
+        for (int round = 0; round < 2; round++) {
+            CHECK.due("messages", x.messages(), 0);
+            for (int i = -1; i <= 1; i++) {
+                CHECK.due("message " + i, x.message(i), -1);
+                CHECK.no("deliver " + i, x.deliver(i));
+                CHECK.no("drop " + i, x.drop(i));
+                CHECK.no("duplicate " + i, x.duplicate(i));
+            }
+            x.acquire(round, 0, 1);
+            CHECK.due("one", x.messages(), 1);
+            CHECK.yes("the one is lost", x.drop(0));
+        }
+    }
+
     private static void orderIsKept() {
         LeasedPages x = withThree();
         codes("sent", x, 1000001, 1110001, 1220001);
@@ -39,6 +57,48 @@ public final class MessagesTest {
         CHECK.yes("deliver", x.deliver(2));
         codes("delivered", x, 1000001, 1000001);
         CHECK.due("what was dropped never came", x.held(1, 1), 0);
+    }
+
+    /** Each kind for the first and the last client and file. */
+    private static void everyCode() {
+        for (int c = 0; c < 3; c += 2) {
+            for (int f = 0; f < 4; f += 3) {
+                int rest = 100000 * c + 10000 * f;
+                LeasedPages x = new LeasedPages(20);
+                x.acquire(c, f, 2);
+                codes("LEASE", x, 1000001 + rest);
+                x.deliver(0);
+                codes("granted", x, 4000001 + rest);
+                x.deliver(0);
+                x.write(c, f, 0, 5);
+                x.write(c, f, 0, 6);
+                x.flush(c);
+                codes("STORE", x, 2000002 + rest);
+                x.deliver(0);
+                codes("yes to a STORE", x, 6000002 + rest);
+                x.deliver(0);
+                x.acquire(1, f, 1);
+                x.deliver(0);
+                codes("RECALL", x, 8000000 + rest);
+                x.drop(0);
+                x.acquire(c, f, 2);
+                x.deliver(0);
+                codes("refused", x, 5000003 + rest);
+                x.deliver(0);
+                x.tick(3, 20);
+                x.drop(0);
+                x.flush(c);
+                x.deliver(0);
+                codes("no", x, 7000004 + rest);
+                x.deliver(0);
+                Check.getLease(x, c, (f + 1) % 4, 1);
+                x.close(c, (f + 1) % 4);
+                int other = 100000 * c + 10000 * ((f + 1) % 4);
+                codes("RELEASE", x, 3000006 + other);
+                x.deliver(0);
+                codes("yes to a RELEASE", x, 6000006 + other);
+            }
+        }
     }
 
     private static void wrongPlaces() {

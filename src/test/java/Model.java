@@ -4,10 +4,7 @@ import java.util.List;
 import java.util.Map;
 import java.util.TreeMap;
 
-/**
- * The document once more, sentence by sentence and with the library's collections, to compare long runs with.
- * It takes right arguments alone: the tests of the promises look at the wrong ones.
- */
+/** The document once more, sentence by sentence and with the library's collections, to compare runs with. */
 final class Model {
     /** "L", "S", "R" requests; "granted", "refused", "yes", "no" replies; "recall". */
     record Msg(String kind, int c, int f, int x, int mode, boolean flag, int page, int value, List<Integer> pages) { }
@@ -51,7 +48,7 @@ final class Model {
     final int term;
     final List<Msg> messages = new ArrayList<>();
     final ClientState[] clients = {new ClientState(), new ClientState(), new ClientState()};
-    final int[][] stored = new int[4][4];
+    final int[][] pages = new int[4][4];
     final int[] doneNumber = new int[3];
     final Msg[] doneReply = new Msg[3];
     final List<Map<Integer, Lease>> leases = new ArrayList<>();
@@ -75,6 +72,24 @@ final class Model {
         }
     }
 
+    private static boolean among(int count, int... numbers) {
+        for (int number : numbers) {
+            if (number < 0 || number >= count) {
+                return false;
+            }
+        }
+        return true;
+    }
+
+    /** There is such a client, and it is up. */
+    private boolean clientUp(int c) {
+        return among(3, c) && clients[c].up;
+    }
+
+    private boolean nodeUp(int node) {
+        return node == 3 ? serverUp : clientUp(node);
+    }
+
     private boolean grace() {
         return restartedAt >= 0 && serverClock - restartedAt < length;
     }
@@ -94,10 +109,10 @@ final class Model {
     }
 
     int acquire(int c, int f, int mode) {
-        ClientState s = clients[c];
-        if (!s.up || s.open != null) {
+        if (!clientUp(c) || !among(4, f) || mode != 1 && mode != 2 || clients[c].open != null) {
             return -1;
         }
+        ClientState s = clients[c];
         if (s.marked(s.lost, f)) {
             s.lost.remove(f);
             return -3;
@@ -115,10 +130,10 @@ final class Model {
     }
 
     int read(int c, int f, int p, int how) {
-        ClientState s = clients[c];
-        if (!s.up) {
+        if (!clientUp(c) || !among(4, f, p) || how != 0 && how != 1) {
             return -1;
         }
+        ClientState s = clients[c];
         if (s.marked(s.lost, f)) {
             if (how == 0) {
                 s.lost.remove(f);
@@ -132,10 +147,10 @@ final class Model {
     }
 
     int write(int c, int f, int p, int v) {
-        ClientState s = clients[c];
-        if (!s.up) {
+        if (!clientUp(c) || !among(4, f, p)) {
             return -1;
         }
+        ClientState s = clients[c];
         if (s.marked(s.lost, f)) {
             s.lost.remove(f);
             return -3;
@@ -152,10 +167,10 @@ final class Model {
     }
 
     int flush(int c) {
-        ClientState s = clients[c];
-        if (!s.up || s.open != null || s.dirty.isEmpty()) {
+        if (!clientUp(c) || clients[c].open != null || clients[c].dirty.isEmpty()) {
             return -1;
         }
+        ClientState s = clients[c];
         Dirty d = s.dirty.get(0);
         if (s.valid(d.f) == null || s.valid(d.f).mode != 2) {
             return -2;
@@ -164,10 +179,10 @@ final class Model {
     }
 
     int close(int c, int f) {
-        ClientState s = clients[c];
-        if (!s.up || s.open != null || s.dirtyOn(f)) {
+        if (!clientUp(c) || !among(4, f) || clients[c].open != null || clients[c].dirtyOn(f)) {
             return -1;
         }
+        ClientState s = clients[c];
         if (s.marked(s.lost, f)) {
             s.lost.remove(f);
             return -3;
@@ -181,16 +196,19 @@ final class Model {
     }
 
     int retry(int c) {
-        ClientState s = clients[c];
-        if (!s.up || s.open == null) {
+        if (!clientUp(c) || clients[c].open == null) {
             return -1;
         }
-        send(s.open);
-        return s.open.x;
+        send(clients[c].open);
+        return clients[c].open.x;
+    }
+
+    int messages() {
+        return messages.size();
     }
 
     int message(int i) {
-        if (i >= messages.size()) {
+        if (!among(messages.size(), i)) {
             return -1;
         }
         Msg m = messages.get(i);
@@ -199,7 +217,7 @@ final class Model {
     }
 
     boolean deliver(int i) {
-        if (i >= messages.size()) {
+        if (!among(messages.size(), i)) {
             return false;
         }
         Msg m = messages.remove(i);
@@ -216,7 +234,7 @@ final class Model {
     }
 
     boolean drop(int i) {
-        if (i >= messages.size()) {
+        if (!among(messages.size(), i)) {
             return false;
         }
         messages.remove(i);
@@ -224,7 +242,7 @@ final class Model {
     }
 
     boolean duplicate(int i) {
-        if (i >= messages.size() || messages.size() == 60) {
+        if (!among(messages.size(), i) || messages.size() == 60) {
             return false;
         }
         messages.add(messages.get(i));
@@ -232,7 +250,7 @@ final class Model {
     }
 
     boolean tick(int node, int n) {
-        if (node == 3 ? !serverUp : !clients[node].up) {
+        if (!nodeUp(node) || n < 1 || n > 100) {
             return false;
         }
         for (int i = 0; i < n; i++) {
@@ -248,51 +266,47 @@ final class Model {
     }
 
     boolean crash(int node) {
-        if (node == 3) {
-            if (!serverUp) {
-                return false;
-            }
-            serverUp = false;
-            forgetServer();
-            return true;
-        }
-        ClientState old = clients[node];
-        if (!old.up) {
+        if (!nodeUp(node)) {
             return false;
         }
-        ClientState fresh = new ClientState();
-        fresh.up = false;
-        fresh.clock = old.clock;
-        fresh.latest = old.latest;
-        clients[node] = fresh;
+        if (node == 3) {
+            serverUp = false;
+            forgetServer();
+        } else {
+            ClientState fresh = new ClientState();
+            fresh.up = false;
+            fresh.clock = clients[node].clock;
+            fresh.latest = clients[node].latest;
+            clients[node] = fresh;
+        }
         return true;
     }
 
     boolean restart(int node) {
-        if (node == 3) {
-            if (serverUp) {
-                return false;
-            }
-            serverUp = true;
-            restartedAt = serverClock;
-            return true;
-        }
-        if (clients[node].up) {
+        if (!among(4, node) || nodeUp(node)) {
             return false;
         }
-        clients[node].up = true;
+        if (node == 3) {
+            serverUp = true;
+            restartedAt = serverClock;
+        } else {
+            clients[node].up = true;
+        }
         return true;
     }
 
     int clock(int node) {
+        if (!among(4, node)) {
+            return -1;
+        }
         return node == 3 ? serverClock : clients[node].clock;
     }
 
     int lease(int c, int f) {
-        ClientState s = clients[c];
-        if (!s.up) {
+        if (!clientUp(c) || !among(4, f)) {
             return -1;
         }
+        ClientState s = clients[c];
         int answer = s.valid(f) == null ? 0 : s.valid(f).mode;
         answer += s.marked(s.recalled, f) ? 10 : 0;
         answer += s.marked(s.lost, f) ? 100 : 0;
@@ -300,16 +314,23 @@ final class Model {
     }
 
     int dirty(int c) {
-        return clients[c].up ? clients[c].dirty.size() : -1;
+        return clientUp(c) ? clients[c].dirty.size() : -1;
     }
 
     int held(int c, int f) {
+        if (!among(3, c) || !among(4, f)) {
+            return -1;
+        }
         Lease lease = leases.get(f).get(c);
         return lease == null ? 0 : 1000 * lease.mode + lease.end - serverClock;
     }
 
     int waiting(int f) {
-        return lines.get(f).size();
+        return among(4, f) ? lines.get(f).size() : -1;
+    }
+
+    int stored(int f, int p) {
+        return among(4, f, p) ? pages[f][p] : 0;
     }
 
     private void request(Msg m) {
@@ -326,7 +347,7 @@ final class Model {
             } else if (m.kind.equals("S")) {
                 Lease lease = leases.get(m.f).get(m.c);
                 if (lease != null && lease.mode == 2) {
-                    stored[m.f][m.page] = m.value;
+                    pages[m.f][m.page] = m.value;
                     done(m, new Msg("yes", m.c, m.f, m.x, 0, true, 0, 0, null));
                 } else {
                     done(m, new Msg("no", m.c, m.f, m.x, 0, true, 0, 0, null));
@@ -372,11 +393,11 @@ final class Model {
     private void grant(Msg m) {
         boolean continued = leases.get(m.f).containsKey(m.c) || m.flag && grace();
         leases.get(m.f).put(m.c, new Lease(m.mode, serverClock + length));
-        List<Integer> pages = new ArrayList<>();
-        for (int value : stored[m.f]) {
-            pages.add(value);
+        List<Integer> asTheyAre = new ArrayList<>();
+        for (int value : pages[m.f]) {
+            asTheyAre.add(value);
         }
-        done(m, new Msg("granted", m.c, m.f, m.x, m.mode, continued, 0, 0, pages));
+        done(m, new Msg("granted", m.c, m.f, m.x, m.mode, continued, 0, 0, asTheyAre));
     }
 
     private void done(Msg request, Msg reply) {

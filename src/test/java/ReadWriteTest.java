@@ -4,6 +4,7 @@ public final class ReadWriteTest {
 
     public static void main(String[] args) {
         readsItsCopy();
+        valuesLikeTheConstants();
         wrongReads();
         readWithALostMark();
         writesItsCopy();
@@ -32,6 +33,18 @@ public final class ReadWriteTest {
         Check.getLease(x, 1, 1, 1);
         CHECK.due("a lease for reading is enough", x.read(1, 1, 0, 0), 0);
         CHECK.due("whether, with a lease for reading", x.read(1, 1, 0, 1), 1);
+    }
+
+    private static void valuesLikeTheConstants() {
+        LeasedPages x = new LeasedPages(200);
+        Check.getLease(x, 0, 0, 2);
+        for (int value : new int[] {-1, -2, -3, -4, 0, 1, Integer.MIN_VALUE, Integer.MAX_VALUE}) {
+            CHECK.due("write " + value, x.write(0, 0, 1, value), 1);
+            CHECK.due("read " + value, x.read(0, 0, 1, 0), value);
+            CHECK.due("whether, with " + value, x.read(0, 0, 1, 1), 1);
+            Check.storeFirst(x, 0);
+            CHECK.due("stored " + value, x.stored(0, 1), value);
+        }
     }
 
     private static void wrongReads() {
