@@ -319,10 +319,6 @@ public final class LeasedPages {
             return place < size ? requests[place] : null;
         }
 
-        boolean hasOneOfAnotherClient(int client) {
-            return size > (placeOf(client) < size ? 1 : 0);
-        }
-
         void add(Request request) {
             if (size < CLIENTS) {
                 requests[size] = request;
@@ -432,12 +428,14 @@ public final class LeasedPages {
 
         private void serveLease(Request request) {
             Line line = lines[request.file];
+            // The client's own waiting request has been taken out before: whoever waits here is another client.
+            boolean othersWait = line.size > 0;
             boolean renews = hasLease(request.client, request.file);
-            if (renews && line.hasOneOfAnotherClient(request.client)) {
+            if (renews && othersWait) {
                 finish(new Reply(REFUSED, request, false, null));
                 return;
             }
-            boolean itsTurn = inGrace ? request.claim : renews || line.size == 0;
+            boolean itsTurn = inGrace ? request.claim : renews || !othersWait;
             if (itsTurn && !conflictsWithAny(request)) {
                 grant(request);
             } else {

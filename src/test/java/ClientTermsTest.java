@@ -53,6 +53,7 @@ public final class ClientTermsTest {
     private static void grantThatGoesOnKeepsDirtyWrites() {
         LeasedPages x = new LeasedPages(12);
         Check.getLease(x, 0, 0, 2);
+        x.write(0, 0, 3, 9);
         x.write(0, 0, 0, 1);
         x.write(0, 0, 0, 2);
         x.write(0, 0, 1, 3);
@@ -62,9 +63,10 @@ public final class ClientTermsTest {
         x.deliver(0);
         CHECK.due("lease", x.lease(0, 0), 2);
         CHECK.due("the last write to a page", x.read(0, 0, 0, 0), 2);
-        CHECK.due("another page", x.read(0, 0, 1, 0), 3);
+        CHECK.due("the last write of all", x.read(0, 0, 1, 0), 3);
+        CHECK.due("the first write of all", x.read(0, 0, 3, 0), 9);
         CHECK.due("a page that is the server's", x.read(0, 0, 2, 0), 0);
-        CHECK.due("dirty", x.dirty(0), 3);
+        CHECK.due("dirty", x.dirty(0), 4);
     }
 
     private static void grantThatDoesNotGoOnLosesThem() {

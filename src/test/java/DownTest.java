@@ -12,6 +12,8 @@ public final class DownTest {
         clientsGoOnWithoutTheServer();
         messagesStayUnderWay();
         crashOfOneLeavesTheOthers();
+        leasesAndLinesOfAllFilesAreForgotten();
+        clientForgetsAllFiles();
         CHECK.end();
     }
 
@@ -210,5 +212,47 @@ public final class DownTest {
         x.restart(1);
         CHECK.due("the server is down yet", x.held(0, 0), 0);
         CHECK.no("and does not tick", x.tick(3, 1));
+    }
+
+    private static void leasesAndLinesOfAllFilesAreForgotten() {
+        for (int f = 0; f < 4; f++) {
+            LeasedPages x = new LeasedPages(20);
+            Check.getLease(x, 0, f, 2);
+            x.acquire(1, f, 1);
+            x.deliver(0);
+            CHECK.due("one waits for file " + f, x.waiting(f), 1);
+            Check.dropAll(x);
+            x.crash(3);
+            CHECK.due("down: waiting " + f, x.waiting(f), 0);
+            x.restart(3);
+            CHECK.due("waiting " + f, x.waiting(f), 0);
+            CHECK.due("held " + f, x.held(0, f), 0);
+            x.tick(3, 20);
+            CHECK.due("nobody is granted file " + f + " when grace is over", x.messages(), 0);
+        }
+    }
+
+    private static void clientForgetsAllFiles() {
+        for (int f = 0; f < 4; f++) {
+            LeasedPages x = new LeasedPages(20);
+            Check.getLease(x, 0, f, 2);
+            x.write(0, f, 0, 5);
+            x.acquire(1, f, 1);
+            x.deliver(0);
+            x.deliver(0);
+            CHECK.due("recalled " + f, x.lease(0, f), 12);
+            x.crash(0);
+            x.restart(0);
+            CHECK.due("no lease and no mark on " + f, x.lease(0, f), 0);
+            CHECK.due("no lease to give back on " + f, x.close(0, f), LeasedPages.NO_LEASE);
+            CHECK.due("no write to " + f, x.flush(0), LeasedPages.NONE);
+
+            LeasedPages y = new LeasedPages(20);
+            ClientTermsTest.loseWrites(y, 0, f);
+            CHECK.due("lost " + f, y.lease(0, f), 102);
+            y.crash(0);
+            y.restart(0);
+            CHECK.due("no mark LOST on " + f, y.acquire(0, f, 1), 4);
+        }
     }
 }

@@ -17,6 +17,7 @@ public final class LimitsTest {
         grantsAtATickAtTheLimit();
         duplicateAtTheLimit();
         aLineOfAllThree();
+        allThreeReadersAtOnce();
         theLastOf512Calls();
         CHECK.end();
     }
@@ -291,6 +292,25 @@ public final class LimitsTest {
         CHECK.due("the third one's turn", x.message(2), 4010001);
         CHECK.due("nobody waits", x.waiting(1), 0);
         CHECK.due("three messages", x.messages(), 3);
+    }
+
+    private static void allThreeReadersAtOnce() {
+        LeasedPages x = new LeasedPages(20);
+        x.crash(3);
+        x.restart(3);
+        int[] order = {1, 2, 0};
+        for (int c : order) {
+            x.acquire(c, 3, 1);
+            x.deliver(0);
+        }
+        x.tick(3, 19);
+        CHECK.due("three wait", x.waiting(3), 3);
+        x.tick(3, 1);
+        CHECK.due("as long as the first conflicts with none", x.waiting(3), 0);
+        for (int i = 0; i < 3; i++) {
+            CHECK.due("in the line's order", x.message(i), 4030001 + 100000 * order[i]);
+            CHECK.due("held", x.held(i, 3), 1020);
+        }
     }
 
     private static void theLastOf512Calls() {

@@ -15,6 +15,7 @@ public final class RepeatsTest {
         refusedCallsUseUpNoNumber();
         aWaitingRequestKeepsItsPlace();
         anotherRequestGoesToTheEnd();
+        takenOutOfAnyLine();
         takingOutLetsTheNextOneIn();
         eachClientHasNumbersOfItsOwn();
         CHECK.end();
@@ -295,6 +296,25 @@ public final class RepeatsTest {
         CHECK.due("2 is the first now", x.message(0), 4200001);
         x.tick(3, 20);
         CHECK.due("then 1, with its later request", x.message(1), 4100002);
+    }
+
+    private static void takenOutOfAnyLine() {
+        for (int f = 0; f < 4; f++) {
+            LeasedPages x = new LeasedPages(20);
+            Check.getLease(x, 0, f, 2);
+            x.acquire(1, f, 1);
+            x.deliver(0);
+            x.drop(0);
+            CHECK.due("waits for file " + f, x.waiting(f), 1);
+            x.crash(1);
+            x.restart(1);
+            x.acquire(1, 3 - f, 1);
+            x.deliver(0);
+            CHECK.due("taken out of the line of file " + f, x.waiting(f), 0);
+            CHECK.due("the later request is granted", x.message(0), 4100002 + 10000 * (3 - f));
+            x.tick(3, 20);
+            CHECK.due("the older one never is", x.held(1, f), 0);
+        }
     }
 
     private static void takingOutLetsTheNextOneIn() {

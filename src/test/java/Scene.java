@@ -158,6 +158,18 @@ enum Scene {
             run.call(Call.TICK, 3, 1);
         }
     },
+    THREE_READERS_WAIT_IN_GRACE(10) {
+        @Override
+        void play(Run run) {
+            run.call(Call.CRASH, 3);
+            run.call(Call.RESTART, 3);
+            for (int c = 2; c >= 0; c--) {
+                run.call(Call.ACQUIRE, c, 1, 1);
+                run.deliverLast();
+            }
+            run.call(Call.TICK, 3, 9);
+        }
+    },
     FIFTY_NINE_MESSAGES(20) {
         @Override
         void play(Run run) {
