@@ -8,6 +8,7 @@ public final class ClientTermsTest {
         grantThatDoesNotGoOnLosesThem();
         grantWithoutDirtyWritesMarksNothing();
         storedWithNo();
+        storedWithNoLeavesTheMarkRecalled();
         refusedChangesNothing();
         lateRecall();
         repeatedGrantShowsThePagesOfItsTime();
@@ -118,6 +119,19 @@ public final class ClientTermsTest {
         CHECK.due("the other lease stays", x.lease(0, 1), 2);
         CHECK.due("LOST", x.close(0, 0), -3);
         CHECK.due("it has none, valid or not", x.close(0, 0), -2);
+    }
+
+    private static void storedWithNoLeavesTheMarkRecalled() {
+        LeasedPages x = new LeasedPages(12);
+        Check.getLease(x, 0, 0, 2);
+        x.write(0, 0, 0, 5);
+        x.acquire(1, 0, 1);
+        x.deliver(0);
+        x.deliver(0);
+        x.tick(3, 12);
+        x.drop(0);
+        Check.storeFirst(x, 0);
+        CHECK.due("recalled and lost, without a lease", x.lease(0, 0), 110);
     }
 
     private static void refusedChangesNothing() {

@@ -78,6 +78,7 @@ public final class FlushCloseRetryTest {
         CHECK.due("waits", x.waiting(1), 1);
         x.deliver(0);
         CHECK.due("the server knows", x.held(0, 1), 0);
+        CHECK.due("another file's lease stays there too", x.held(0, 2), 2020);
         CHECK.due("yes", x.message(0), 6010003);
         CHECK.due("then the grant", x.message(1), 4110001);
         x.deliver(0);

@@ -44,6 +44,7 @@ public final class LeaseTableTest {
         }
         holderInGrace();
         holderAsksForMoreInGrace();
+        claimOutOfGraceIsLikeAnyOther();
         otherFilesDoNotCount();
         CHECK.end();
     }
@@ -153,6 +154,22 @@ public final class LeaseTableTest {
         CHECK.due("the last tick of grace", x.held(0, 0), 1001);
         x.tick(3, 1);
         CHECK.due("granted", x.held(0, 0), 2040);
+    }
+
+    /** Client 0 knows a valid lease for reading, which the server has let run out. */
+    private static void claimOutOfGraceIsLikeAnyOther() {
+        LeasedPages x = new LeasedPages(40);
+        Check.getLease(x, 0, 0, 1);
+        x.tick(3, 40);
+        Check.getLease(x, 1, 0, 1);
+        x.acquire(2, 0, 2);
+        x.deliver(0);
+        Check.dropAll(x);
+        CHECK.due("valid, so it is a claim", x.lease(0, 0), 1);
+        x.acquire(0, 0, 1);
+        x.deliver(0);
+        CHECK.due("it waits behind the other one", x.waiting(0), 2);
+        CHECK.due("and has no lease", x.held(0, 0), 0);
     }
 
     private static void otherFilesDoNotCount() {
