@@ -44,6 +44,8 @@ public final class LeaseTableTest {
         }
         holderInGrace();
         holderAsksForMoreInGrace();
+        storeInGrace();
+        releaseInGrace();
         claimOutOfGraceIsLikeAnyOther();
         otherFilesDoNotCount();
         CHECK.end();
@@ -154,6 +156,32 @@ public final class LeaseTableTest {
         CHECK.due("the last tick of grace", x.held(0, 0), 1001);
         x.tick(3, 1);
         CHECK.due("granted", x.held(0, 0), 2040);
+    }
+
+    private static void storeInGrace() {
+        LeasedPages x = claimed(2);
+        x.write(0, 0, 0, 5);
+        x.flush(0);
+        x.deliver(0);
+        CHECK.due("yes with a claimed lease", x.message(0), 6000003);
+        CHECK.due("stored", x.stored(0, 0), 5);
+    }
+
+    private static void releaseInGrace() {
+        LeasedPages x = claimed(2);
+        x.acquire(1, 0, 1);
+        x.deliver(0);
+        Check.dropAll(x);
+        x.close(0, 0);
+        x.deliver(0);
+        CHECK.due("yes", x.message(0), 6000003);
+        CHECK.due("the lease is gone", x.held(0, 0), 0);
+        CHECK.due("but the line does not go on", x.waiting(0), 1);
+        CHECK.due("before grace is over", x.messages(), 1);
+        x.tick(3, 38);
+        CHECK.due("at its last tick", x.waiting(0), 1);
+        x.tick(3, 1);
+        CHECK.due("then it goes on", x.message(1), 4100001);
     }
 
     /** Client 0 knows a valid lease for reading, which the server has let run out. */

@@ -17,6 +17,7 @@ public final class RepeatsTest {
         anotherRequestGoesToTheEnd();
         takenOutOfAnyLine();
         takingOutLetsTheNextOneIn();
+        oneArrivalForTwoLines();
         eachClientHasNumbersOfItsOwn();
         CHECK.end();
     }
@@ -333,6 +334,32 @@ public final class RepeatsTest {
         CHECK.due("the reply to the new request", x.message(0), 4130002);
         CHECK.due("then the reader's grant", x.message(1), 4200001);
         CHECK.due("nobody waits", x.waiting(0), 0);
+    }
+
+    /** A late RELEASE of file 3 also takes a request out of the line of file 0: both lines can go on. */
+    private static void oneArrivalForTwoLines() {
+        LeasedPages x = new LeasedPages(40);
+        Check.getLease(x, 2, 0, 1);
+        Check.getLease(x, 1, 3, 2);
+        x.close(1, 3);
+        x.acquire(2, 3, 1);
+        x.deliver(1);
+        x.crash(1);
+        x.restart(1);
+        x.acquire(1, 0, 2);
+        Check.deliverLast(x);
+        x.acquire(0, 0, 1);
+        Check.deliverLast(x);
+        while (x.messages() > 1) {
+            x.drop(1);
+        }
+        CHECK.due("two wait for file 0", x.waiting(0), 2);
+        CHECK.due("one waits for file 3", x.waiting(3), 1);
+        x.deliver(0);
+        CHECK.due("the reply", x.message(0), 6130002);
+        CHECK.due("then file 0", x.message(1), 4000001);
+        CHECK.due("then file 3", x.message(2), 4230002);
+        CHECK.due("nobody waits", x.waiting(0) + x.waiting(3), 0);
     }
 
     private static void eachClientHasNumbersOfItsOwn() {
