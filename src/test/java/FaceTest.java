@@ -28,6 +28,9 @@ public final class FaceTest {
         Constructor<?>[] made = LeasedPages.class.getDeclaredConstructors();
         check.due("constructors", made.length, 1);
         check.yes("constructor is public", Modifier.isPublic(made[0].getModifiers()));
+        for (Method method : LeasedPages.class.getDeclaredMethods()) {
+            check.no(method + " is private with a public name", !seen(method) && bearsPublicName(method));
+        }
         for (Class<?> inside : LeasedPages.class.getDeclaredClasses()) {
             checkInside(check, inside);
         }
@@ -38,14 +41,21 @@ public final class FaceTest {
         check.yes(inside + " is static", Modifier.isStatic(inside.getModifiers()));
         check.no(inside + " is public", Modifier.isPublic(inside.getModifiers()));
         for (Method method : inside.getDeclaredMethods()) {
-            for (String face : METHODS) {
-                check.no(method + " bears a public name", face.contains(" " + method.getName() + "("));
-            }
+            check.no(method + " bears a public name", bearsPublicName(method));
         }
         for (Field field : inside.getDeclaredFields()) {
             int bits = field.getModifiers();
             check.yes(field + " is no static state", !Modifier.isStatic(bits) || Modifier.isFinal(bits));
         }
+    }
+
+    private static boolean bearsPublicName(Method method) {
+        for (String face : METHODS) {
+            if (face.contains(" " + method.getName() + "(")) {
+                return true;
+            }
+        }
+        return false;
     }
 
     private static boolean seen(Member member) {
